@@ -646,31 +646,20 @@ public final class ForgetWar {
                 begin++;
             }
             kind = kindAt(begin);
-            stop = begin;
-            value = NONE;
-            if (kind == SIGN) {
-                value = pick(bytes, begin);
-                stop++;
-            } else if (kind == WORD) {
-                passWord();
-            } else if (kind == NUMBER) {
-                passNumber();
-            }
-        }
-
-        private void passWord() {
-            while (stop < size && kindAt(stop) == WORD) {
+            stop = kind == END ? begin : begin + 1;
+            while (kind != SIGN && stop < size && kindAt(stop) == kind) {
                 stop++;
             }
+            value = kind == NUMBER ? numberRead() : pick(bytes, begin);
         }
 
         /** A number of more than 3 digits has no value that could be in bounds. */
-        private void passNumber() {
-            value = 0;
-            while (stop < size && stop < TAPE_BYTES && kindAt(stop) == NUMBER) {
-                value = stop - begin < 3 ? value * 10 + bytes[stop] - '0' : NONE;
-                stop++;
+        private int numberRead() {
+            int sum = 0;
+            for (int k = begin; k < stop && k < TAPE_BYTES; k++) {
+                sum = k - begin < 3 ? sum * 10 + bytes[k] - '0' : NONE;
             }
+            return sum;
         }
 
         private int kindAt(int k) {
@@ -688,8 +677,8 @@ public final class ForgetWar {
             if (kind != WORD || stop - begin != word.length()) {
                 return false;
             }
-            for (int k = 0; k < word.length(); k++) {
-                if (pick(bytes, begin + k) != word.charAt(k)) {
+            for (int k = 0; k < word.length() && begin + k < TAPE_BYTES; k++) {
+                if (bytes[begin + k] != word.charAt(k)) {
                     return false;
                 }
             }
@@ -1260,7 +1249,19 @@ public final class ForgetWar {
                 law.emit(PARTS + PART_ALONE);
                 return true;
             }
-            return comparison();
+            if (!sum()) {
+                return false;
+            }
+            int sign = tape.isSign('<') ? LESS : MORE;
+            if (sign == MORE && !tape.isSign('>')) {
+                return false;
+            }
+            tape.advance();
+            if (!sum()) {
+                return false;
+            }
+            law.emit(sign);
+            return true;
         }
 
         private boolean denied(int depth) {
@@ -1277,22 +1278,6 @@ public final class ForgetWar {
             return anyOf(depth) && tape.takeSign(')');
         }
 
-        private boolean comparison() {
-            if (!sum()) {
-                return false;
-            }
-            boolean less = tape.isSign('<');
-            if (!less && !tape.isSign('>')) {
-                return false;
-            }
-            tape.advance();
-            if (!sum()) {
-                return false;
-            }
-            law.emit(less ? LESS : MORE);
-            return true;
-        }
-
         private boolean sum() {
             for (int k = 0; k < TAPE_BYTES; k++) {
                 int op = tape.isNumber(0, 999) ? tape.value : partWord();
@@ -1304,9 +1289,10 @@ public final class ForgetWar {
                     law.emit(PLUS);
                 }
                 tape.advance();
-                if (!tape.takeSign('+')) {
+                if (!tape.isSign('+')) {
                     return true;
                 }
+                tape.advance();
             }
             return false;
         }
@@ -1421,11 +1407,13 @@ public final class ForgetWar {
         }
 
         void takeThing(int k) {
-            for (int next = k + 1; next < things; next++) {
-                put(thingMemory, next - 1, pick(thingMemory, next));
-                put(thingPlace, next - 1, pick(thingPlace, next));
-                put(thingOwner, next - 1, pick(thingOwner, next));
+            int behind = things - 1 - k;
+            if (k < 0 || behind < 0 || things > THINGS) {
+                return;
             }
+            System.arraycopy(thingMemory, k + 1, thingMemory, k, behind);
+            System.arraycopy(thingPlace, k + 1, thingPlace, k, behind);
+            System.arraycopy(thingOwner, k + 1, thingOwner, k, behind);
             things--;
         }
 
@@ -1553,12 +1541,14 @@ public final class ForgetWar {
         }
 
         private int dearestOf(int soldier) {
+            int known = pick(scene.known, soldier);
             int dearest = NONE;
             int most = NONE;
             for (int m = 0; m < lore.memories; m++) {
-                if (has(pick(scene.known, soldier), m) && fallsOf(soldier, m) > most) {
+                int falls = has(known, m) ? fallsOf(soldier, m) : NONE;
+                if (falls > most) {
                     dearest = m;
-                    most = fallsOf(soldier, m);
+                    most = falls;
                 }
             }
             return dearest;
@@ -1566,9 +1556,11 @@ public final class ForgetWar {
 
         int readAloud(int reader) {
             int before = scene.learnt;
+            int set = pick(lore.book, reader);
             for (int pupil = 0; pupil < lore.soldiers; pupil++) {
-                if (ofOneSide(reader, pupil) && together(reader, pupil)) {
-                    learnAll(pupil, pick(lore.book, reader));
+                int open = set & ~pick(scene.known, pupil);
+                if (open != 0 && ofOneSide(reader, pupil) && together(reader, pupil)) {
+                    learnAll(pupil, open);
                 }
             }
             return scene.learnt - before;
@@ -1625,9 +1617,10 @@ public final class ForgetWar {
                 return NONE;
             }
             for (int k = 0; k < lore.soldiers; k++) {
-                if (!ofOneSide(soldier, k) && together(soldier, k) && pick(scene.many, k) > most) {
+                int many = pick(scene.many, k);
+                if (many > most && !ofOneSide(soldier, k) && together(soldier, k)) {
                     whom = k;
-                    most = pick(scene.many, k);
+                    most = many;
                 }
             }
             return whom;
