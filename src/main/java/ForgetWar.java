@@ -445,7 +445,7 @@ public final class ForgetWar {
     public int span(int side, int n, boolean most) throws IndexOutOfBoundsException, IllegalArgumentException {
         needSide(side);
         needNumber(n, 0, LONGEST_SPAN);
-        int fewest = Integer.MAX_VALUE;
+        int fewest = SOLDIERS * KNOWN;
         int greatest = 0;
         for (int from = 1; from <= LAST_SEED; from++) {
             probe.scene.copyFrom(now.scene);

@@ -100,6 +100,15 @@ final class ActTest {
         x.hours(1);
         Check.cannotBe("not at the place", () -> x.gather(1, 0));
         Check.same("by who stays", x.gather(2, 0), 0);
+        ForgetWar y = told("memory 1;memory 1;memory 1;soldier 0 1;soldier 1 1;soldier 1 1;knows 1 2;knows 2 0 1 2");
+        y.shoot(0, 2, false);
+        y.shoot(0, 2, false);
+        y.shoot(0, 1, false);
+        Check.same("the middle one", y.gather(0, 1), 1);
+        Check.same("ahead of it", y.field(0, 0) * 10 + y.field(0, 2), 22);
+        Check.same("behind it", y.field(1, 0) * 10 + y.field(1, 2), 21);
+        Check.same("the last", y.gather(0, 1), 2);
+        Check.cannotBe("known already", () -> y.gather(0, 0));
         Check.outOfBounds("nothing lies there", () -> x.gather(2, 0));
         Check.outOfBounds("nothing lies there", () -> x.field(0, 0));
     }

@@ -74,6 +74,7 @@ final class PastTest {
         Check.same("of several the least", x.hitter(), 1);
         x.shoot(2, 0, false);
         Check.same("most", x.hitter(), 2);
+        Check.same("asked again", x.hitter(), 2);
         for (int k = 0; k < 31; k++) {
             x.shoot(0, 3, false);
             x.read(3);
@@ -81,6 +82,9 @@ final class PastTest {
             x.read(3);
         }
         Check.same("by the log alone", x.hitter(), 0);
+        x.shoot(1, 3, false);
+        Check.same("one more", x.hitter(), 1);
+        Check.same("asked again", x.hitter(), 1);
     }
 
     private static void undone() {

@@ -6,6 +6,7 @@ final class TalkTest {
         mutes();
         amends();
         treaties();
+        agreements();
         matches();
         matchesBefore();
         trials();
@@ -54,6 +55,18 @@ final class TalkTest {
         Check.outOfBounds("no other", () -> x.soonest(0, -1));
         x.hours(4);
         Check.same("from now", x.soonest(1, 5), 1);
+        String chain = "memory 1;soldier 0 0 0 0 0 1;knows 0 0;soldier 0 4 4 4 4 2 1;";
+        ForgetWar y = told(chain + "soldier 0 3 5 5 2 5;soldier 0 3 6 6 6 6 6");
+        Check.same("29", y.soonest(0, 1), 29);
+        Check.same("58", y.soonest(0, 2), 58);
+        Check.same("60", y.soonest(0, 3), 60);
+        Check.same("behind 57", y.spread(0, 0, 57), 3);
+        Check.same("behind 59", y.spread(0, 0, 59), 7);
+        Check.same("behind 60", y.spread(0, 0, 60), 15);
+        ForgetWar z = told(chain + "soldier 0 5 3 5 2 5;soldier 0 6 3 6 6 6 6");
+        Check.same("61 is none", z.soonest(0, 3), -1);
+        z.hours(1);
+        Check.same("60 from now", z.soonest(0, 3), 60);
     }
 
     private static void mutes() {
@@ -104,6 +117,18 @@ final class TalkTest {
         Check.same("what is none counts for nothing", x.treaty(16 | 1, true), 2);
         Check.same("what is none counts for nothing", x.treaty(Integer.MIN_VALUE | 2, false), 1);
         Check.same("all", x.treaty(-1, false), 0);
+    }
+
+    private static void agreements() {
+        ForgetWar x = told("memory 1;memory 1;memory 1;memory 1 needs 0;soldier 0 1;soldier 1 1;soldier 1 1;knows 0 0 1 3;knows 1 1 2;knows 2 3 1");
+        Check.same("usable on both sides alone", x.agreed(), 2);
+        Check.same("what side 1 has not", x.treaty(3, false), 0);
+        Check.same("what side 0 has not", x.treaty(6, false), 0);
+        Check.same("of side 0", x.treaty(2, true), 1);
+        x.shoot(0, 1, false);
+        x.shoot(0, 1, false);
+        Check.same("not usable", x.treaty(8, false), 0);
+        Check.same("of the other side", x.treaty(2, true), 1);
     }
 
     private static int matches(ForgetWar x, String told, int place, int k) {
@@ -161,6 +186,13 @@ final class TalkTest {
         x.hours(1);
         Check.same("2 hours ago", matches(x, "\0", 5, 0), 2);
         Check.same("all of the route", matches(x, "\0", 3, -1), 1);
+        ForgetWar y = told("memory 1;soldier 0 0 1 2 3 4 5");
+        for (int hour = 0; hour < 9; hour++) {
+            for (int place = 0; place < 8; place++) {
+                Check.same("hour " + hour + " place " + place, matches(y, "\0", place, -1), place <= hour && place < 6 ? 1 : 0);
+            }
+            y.hours(1);
+        }
     }
 
     private static void trials() {

@@ -21,6 +21,15 @@ final class TextTest {
         Check.wrongWar("memories 1", 0);
         Check.wrongWar("Memory 1", 0);
         Check.wrongWar(";memory 1", 0);
+        Check.wrongWar("memoryz 1", 0);
+        Check.wrongWar("amemory 1", 0);
+        for (String word : new String[] {"memory", "soldier", "knows", "book", "order", "plan", "clash"}) {
+            Check.wrongWar(PAIR + word, 30 + word.length());
+            for (int k = 0; k < word.length(); k++) {
+                Check.wrongWar(PAIR + word.substring(0, k) + "x" + word.substring(k + 1) + " 1 0", 30);
+                Check.wrongWar(PAIR + word.substring(0, k) + word.substring(k + 1) + " 1 0", 30);
+            }
+        }
         Check.wrongWar("memory", 6);
         Check.wrongWar("memory ", 7);
         Check.wrongWar("memory x", 7);
@@ -41,6 +50,7 @@ final class TextTest {
         Check.wrongWar(PAIR + "knows 0 2", 38);
         Check.wrongWar(PAIR + "knows 0 0 1 0", 42);
         Check.wrongWar(PAIR + "book 0", 36);
+        Check.wrongWar(PAIR + "book 1 0", 35);
         Check.wrongWar(PAIR + "book 0 2", 37);
         Check.wrongWar(PAIR + "order 1 0", 36);
         Check.wrongWar(PAIR + "order 0 ;", 38);
@@ -154,6 +164,16 @@ final class TextTest {
 
     private static void lawLines() {
         Check.wrongLaw("tax", 0);
+        for (String word : new String[] {"soldier", "side", "place", "hour", "known", "usable", "foes", "alone", "not alone"}) {
+            String rest = word.endsWith("alone") ? "" : " < 1";
+            Check.same(word, Check.law(new ForgetWar(), "read if " + word + rest), 1);
+            for (int k = 0; k < word.length(); k++) {
+                int begin = k > 3 && word.startsWith("not") ? 12 : 8;
+                if (word.charAt(k) != ' ') {
+                    Check.wrongLaw("read if " + word.substring(0, k) + "x" + word.substring(k + 1) + rest, begin);
+                }
+            }
+        }
         Check.wrongLaw("aim", 3);
         Check.wrongLaw("aim if alone", 4);
         Check.wrongLaw("aim 1000", 4);
