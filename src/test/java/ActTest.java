@@ -15,14 +15,8 @@ final class ActTest {
         Check.close("ActTest");
     }
 
-    private static ForgetWar told(String text) {
-        ForgetWar x = new ForgetWar();
-        Check.war(x, text);
-        return x;
-    }
-
     private static void goodShots() {
-        ForgetWar x = told("memory 1;memory 1;memory 1 needs 1;memory 1 needs 0;memory 1 needs 3;memory 1 needs 4;soldier 0 1;soldier 1 1;knows 1 5 4 3 2 1 0");
+        ForgetWar x = Check.told("memory 1;memory 1;memory 1 needs 1;memory 1 needs 0;memory 1 needs 3;memory 1 needs 4;soldier 0 1;soldier 1 1;knows 1 5 4 3 2 1 0");
         Check.same("by whose loss most fall", x.shoot(0, 1, true), 0);
         Check.same("then", x.shoot(0, 1, true), 1);
         Check.same("none usable: the least", x.shoot(0, 1, true), 2);
@@ -32,14 +26,14 @@ final class ActTest {
         Check.same("where", x.field(0, 1), 1);
         Check.same("whose", x.field(2, 2), 1);
         Check.same("lost", x.count(9), 3);
-        ForgetWar y = told("memory 1;memory 1 needs 0;memory 1;memory 1 needs 2;soldier 0 1;soldier 1 1;knows 1 3 2 1 0");
+        ForgetWar y = Check.told("memory 1;memory 1 needs 0;memory 1;memory 1 needs 2;soldier 0 1;soldier 1 1;knows 1 3 2 1 0");
         Check.same("of several the least", y.shoot(0, 1, true), 0);
-        ForgetWar z = told("memory 1;memory 1 needs 0;memory 1;soldier 0 1;soldier 1 1;knows 1 1 2");
+        ForgetWar z = Check.told("memory 1;memory 1 needs 0;memory 1;soldier 0 1;soldier 1 1;knows 1 1 2");
         Check.same("only the usable one falls", z.shoot(0, 1, true), 2);
     }
 
     private static void otherShots() {
-        ForgetWar x = told("memory 1;memory 1;memory 1;soldier 0 1 2;soldier 1 1 3;knows 1 2 0 1");
+        ForgetWar x = Check.told("memory 1;memory 1;memory 1;soldier 0 1 2;soldier 1 1 3;knows 1 2 0 1");
         Check.same("the latest", x.shoot(0, 1, false), 1);
         Check.same("the next", x.shoot(0, 1, false), 0);
         Check.same("the first", x.shoot(0, 1, false), 2);
@@ -48,7 +42,7 @@ final class ActTest {
     }
 
     private static void refusedShots() {
-        ForgetWar x = told("memory 1;soldier 0 1;soldier 1 1 2;soldier 0 1;soldier 1 2;knows 0 0;knows 1 0;knows 2 0;knows 3 0");
+        ForgetWar x = Check.told("memory 1;soldier 0 1;soldier 1 1 2;soldier 0 1;soldier 1 2;knows 0 0;knows 1 0;knows 2 0;knows 3 0");
         Check.outOfBounds("no soldier", () -> x.shoot(4, 4, true));
         Check.outOfBounds("no other", () -> x.shoot(0, -1, true));
         Check.noNumber("both are one", () -> x.shoot(0, 0, true));
@@ -60,7 +54,7 @@ final class ActTest {
     }
 
     private static void teaches() {
-        ForgetWar x = told("memory 1;memory 1 needs 0;memory 1;soldier 0 1;soldier 0 1;soldier 1 1;soldier 0 2;knows 0 1 0;knows 2 0;knows 3 0 2");
+        ForgetWar x = Check.told("memory 1;memory 1 needs 0;memory 1;soldier 0 1;soldier 0 1;soldier 1 1;soldier 0 2;knows 0 1 0;knows 2 0;knows 3 0 2");
         Check.outOfBounds("no soldier", () -> x.teach(4, 0, 0));
         Check.outOfBounds("no teacher", () -> x.teach(0, 4, 0));
         Check.outOfBounds("no memory", () -> x.teach(0, 0, 3));
@@ -76,7 +70,7 @@ final class ActTest {
         Check.cannotBe("known already", () -> x.teach(1, 0, 1));
         Check.same("learnt", x.count(10), 2);
         Check.same("acts", x.count(12), 2);
-        ForgetWar y = told("memory 1;memory 1;memory 1;memory 1;memory 1;memory 1;memory 1;memory 1;memory 1;memory 1;memory 1;memory 1;memory 1;soldier 0 1");
+        ForgetWar y = Check.told("memory 1;memory 1;memory 1;memory 1;memory 1;memory 1;memory 1;memory 1;memory 1;memory 1;memory 1;memory 1;memory 1;soldier 0 1");
         Check.war(y, "soldier 0 1;knows 0 0 1 2 3 4 5 6 7 8 9 10 12;knows 1 11 12");
         Check.cannotBe("a 13th", () -> y.teach(0, 1, 11));
         Check.cannotBe("not usable to oneself", () -> y.teach(1, 0, 11));
@@ -84,7 +78,7 @@ final class ActTest {
     }
 
     private static void gathers() {
-        ForgetWar x = told("memory 1;memory 1 needs 0;soldier 0 1 2;soldier 1 1 3;soldier 1 1;knows 1 0 1;knows 0 0");
+        ForgetWar x = Check.told("memory 1;memory 1 needs 0;soldier 0 1 2;soldier 1 1 3;soldier 1 1;knows 1 0 1;knows 0 0");
         x.shoot(0, 1, false);
         x.shoot(0, 1, false);
         Check.outOfBounds("no soldier", () -> x.gather(3, 0));
@@ -100,7 +94,7 @@ final class ActTest {
         x.hours(1);
         Check.cannotBe("not at the place", () -> x.gather(1, 0));
         Check.same("by who stays", x.gather(2, 0), 0);
-        ForgetWar y = told("memory 1;memory 1;memory 1;soldier 0 1;soldier 1 1;soldier 1 1;knows 1 2;knows 2 0 1 2");
+        ForgetWar y = Check.told("memory 1;memory 1;memory 1;soldier 0 1;soldier 1 1;soldier 1 1;knows 1 2;knows 2 0 1 2");
         y.shoot(0, 2, false);
         y.shoot(0, 2, false);
         y.shoot(0, 1, false);
@@ -114,7 +108,7 @@ final class ActTest {
     }
 
     private static void reads() {
-        ForgetWar x = told("memory 1;memory 1 needs 0;memory 1 needs 1;memory 1;soldier 0 1;soldier 0 1;soldier 1 1;soldier 0 2;book 0 2 0 1;knows 1 3;book 3 3");
+        ForgetWar x = Check.told("memory 1;memory 1 needs 0;memory 1 needs 1;memory 1;soldier 0 1;soldier 0 1;soldier 1 1;soldier 0 2;book 0 2 0 1;knows 1 3;book 3 3");
         Check.law(x, "");
         Check.outOfBounds("no soldier", () -> x.read(4));
         Check.cannotBe("no book", () -> x.read(1));
@@ -128,13 +122,13 @@ final class ActTest {
         Check.same("nothing new", x.read(0), 0);
         Check.same("an act all the same", x.count(12), 2);
         Check.same("alone", x.read(3), 1);
-        ForgetWar y = told("memory 1;memory 1 needs 0;memory 1;soldier 0 1;book 0 1 2");
+        ForgetWar y = Check.told("memory 1;memory 1 needs 0;memory 1;soldier 0 1;book 0 1 2");
         Check.same("just what can be", y.read(0), 1);
         Check.same("2", y.known(0, 0), 2);
     }
 
     private static void fieldForgets() {
-        ForgetWar y = told("memory 1;memory 1;soldier 0 1;soldier 1 1;soldier 1 1;knows 0 0;knows 1 1 0;knows 2 0;book 2 0");
+        ForgetWar y = Check.told("memory 1;memory 1;soldier 0 1;soldier 1 1;soldier 1 1;knows 0 0;knows 1 1 0;knows 2 0;book 2 0");
         y.shoot(0, 1, false);
         y.shoot(0, 1, false);
         for (int k = 2; k < 40; k++) {
@@ -161,7 +155,7 @@ final class ActTest {
     }
 
     private static void hoursByHand() {
-        ForgetWar x = told("memory 1;memory 1 needs 0;soldier 0 1 2;soldier 1 2 1 2;knows 0 0 1;knows 1 0");
+        ForgetWar x = Check.told("memory 1;memory 1 needs 0;soldier 0 1 2;soldier 1 2 1 2;knows 0 0 1;knows 1 0");
         Check.noNumber("0", () -> x.hours(0));
         Check.noNumber("61", () -> x.hours(61));
         Check.noNumber("-1", () -> x.hours(-1));
@@ -171,7 +165,7 @@ final class ActTest {
         Check.same("nothing is drawn", x.seed(1), 1);
         Check.same("and again", x.hours(1), 0);
         Check.same("they meet: only the first shoots, the other has nothing then", x.hours(1), 1);
-        ForgetWar y = told("memory 1;memory 1 needs 0;soldier 0 1;soldier 1 1;knows 0 0 1;knows 1 0");
+        ForgetWar y = Check.told("memory 1;memory 1 needs 0;soldier 0 1;soldier 1 1;knows 0 0 1;knows 1 0");
         Check.law(y, "aim 100;good 100 if side < 1");
         Check.same("only the first shoots", y.hours(1), 1);
         Check.same("the other has nothing usable", y.soldier(1, 2), 0);
@@ -189,7 +183,7 @@ final class ActTest {
     /** Aim 50 and good 20: the draws are told beside the object. */
     private static void hoursByDraws() {
         for (int from = -20; from < 200; from++) {
-            ForgetWar x = told("memory 1;memory 1;memory 1 needs 0;soldier 0 1;soldier 1 1;knows 0 1;knows 1 0 2 1");
+            ForgetWar x = Check.told("memory 1;memory 1;memory 1 needs 0;soldier 0 1;soldier 1 1;knows 0 1;knows 1 0 2 1");
             Check.same("seed", x.seed(from * 7919), 1);
             int[] seed = {from * 7919};
             int lost = x.hours(1);
@@ -205,7 +199,7 @@ final class ActTest {
     }
 
     private static void hoursRead() {
-        ForgetWar x = told("memory 1;memory 1 needs 0;memory 1;soldier 0 1 2;soldier 0 2;soldier 0 3 2;book 0 0;book 1 1;book 2 2");
+        ForgetWar x = Check.told("memory 1;memory 1 needs 0;memory 1;soldier 0 1 2;soldier 0 2;soldier 0 3 2;book 0 0;book 1 1;book 2 2");
         Check.law(x, "read if soldier < 2 or hour > 0");
         Check.same("nobody shoots", x.hours(1), 0);
         Check.same("learnt by numbers", x.count(10), 6);
@@ -216,23 +210,23 @@ final class ActTest {
         Check.same("soldier 1 hears no 2", x.soldier(1, 3), 3);
         x.hours(1);
         Check.same("together again", x.soldier(1, 3), 7);
-        ForgetWar y = told("memory 1;soldier 0 1;book 0 0");
+        ForgetWar y = Check.told("memory 1;soldier 0 1;book 0 0");
         Check.law(y, "");
         y.hours(5);
         Check.same("nobody reads", y.count(10), 0);
-        ForgetWar z = told("memory 1;soldier 0 1;book 0 0");
+        ForgetWar z = Check.told("memory 1;soldier 0 1;book 0 0");
         z.hours(1);
         Check.same("without a law all read", z.count(10), 1);
     }
 
     /** The law is asked when one's turn comes. */
     private static void lawMoves() {
-        ForgetWar x = told("memory 1;memory 1;soldier 0 1;soldier 1 1;soldier 0 1;knows 0 0;knows 1 1 0;knows 2 0");
+        ForgetWar x = Check.told("memory 1;memory 1;soldier 0 1;soldier 1 1;soldier 0 1;knows 0 0;knows 1 1 0;knows 2 0");
         Check.law(x, "aim 100 if known < 2");
         Check.same("the first makes the second able", x.hours(1), 3);
         Check.same("by 0, by 1, by 2", x.log(2, 1) * 100 + x.log(1, 1) * 10 + x.log(0, 1), 12);
         Check.same("hour of the rows", x.log(2, 0), 0);
-        ForgetWar y = told("memory 1;memory 1;soldier 0 1;soldier 1 1;knows 0 0;knows 1 1 0");
+        ForgetWar y = Check.told("memory 1;memory 1;soldier 0 1;soldier 1 1;knows 0 0;knows 1 1 0");
         Check.law(y, "aim 100 if hour > 1 and side < 1");
         Check.same("hour 0 and 1", y.hours(2), 0);
         Check.same("hour 2", y.hours(1), 1);

@@ -18,6 +18,21 @@ final class Check {
         }
     }
 
+    /** Of unlike texts the first unlike line is printed. */
+    static void alike(String what, String got, String due) {
+        calls++;
+        if (!got.equals(due)) {
+            wrong++;
+            String[] gotLines = got.split("\n");
+            String[] dueLines = due.split("\n");
+            int k = 0;
+            while (k < gotLines.length - 1 && k < dueLines.length - 1 && gotLines[k].equals(dueLines[k])) {
+                k++;
+            }
+            System.out.println(what + " looks " + gotLines[k] + ", due is " + dueLines[k]);
+        }
+    }
+
     static void yes(String what, boolean got) {
         same(what, got ? 1 : 0, 1);
     }
@@ -81,6 +96,40 @@ final class Check {
     static int law(ForgetWar x, String text) {
         tell(x, text);
         return x.law();
+    }
+
+    /** A new object to which the text of THE WAR was told. */
+    static ForgetWar told(String text) {
+        ForgetWar x = new ForgetWar();
+        war(x, text);
+        return x;
+    }
+
+    /** The line so often, one behind another. */
+    static String times(String line, int n) {
+        StringBuilder b = new StringBuilder(line);
+        for (int k = 1; k < n; k++) {
+            b.append(";").append(line);
+        }
+        return b.toString();
+    }
+
+    /** In the text a ^ (which goes out) stands ahead of the first wrong byte. */
+    static void badWar(ForgetWar x, String marked) {
+        wrongWar(x, unmarked(marked), marked.indexOf('^'));
+    }
+
+    static void badWar(String marked) {
+        badWar(new ForgetWar(), marked);
+    }
+
+    static void badLaw(String marked) {
+        wrongLaw(unmarked(marked), marked.indexOf('^'));
+    }
+
+    private static String unmarked(String marked) {
+        int at = marked.indexOf('^');
+        return marked.substring(0, at) + marked.substring(at + 1);
     }
 
     static void wrongWar(String text, int fault) {

@@ -11,20 +11,14 @@ final class PlanTest {
         Check.close("PlanTest");
     }
 
-    private static ForgetWar told(String text) {
-        ForgetWar x = new ForgetWar();
-        Check.war(x, text);
-        return x;
-    }
-
     private static void shots() {
-        ForgetWar x = told("memory 1;memory 1 needs 0;memory 1 needs 1;memory 1;memory 1 needs 3;soldier 0 1;knows 0 2 1 3 0 ");
+        ForgetWar x = Check.told("memory 1;memory 1 needs 0;memory 1 needs 1;memory 1;memory 1 needs 3;soldier 0 1;knows 0 2 1 3 0 ");
         int[] due = {1, 1, 1, 2, 0};
         for (int m = 0; m < 5; m++) {
             Check.same("the latest till " + m, x.shots(0, m, false), due[m]);
             Check.same("good ones till " + m, x.shots(0, m, true), m < 4 ? 1 : 0);
         }
-        ForgetWar y = told("memory 1;memory 1 needs 0;memory 1;soldier 0 1;knows 0 0 1 2");
+        ForgetWar y = Check.told("memory 1;memory 1 needs 0;memory 1;soldier 0 1;knows 0 0 1 2");
         Check.same("behind another one", y.shots(0, 1, false), 2);
         Check.same("the first", y.shots(0, 0, false), 3);
         Check.outOfBounds("no soldier", () -> x.shots(1, 0, true));
@@ -33,7 +27,7 @@ final class PlanTest {
     }
 
     private static void outlasts() {
-        ForgetWar x = told("memory 1;memory 1;memory 1;soldier 0 1;soldier 0 2;soldier 1 1;knows 0 0 1 2;knows 1 2 1;knows 2 0;plan 0 1 2");
+        ForgetWar x = Check.told("memory 1;memory 1;memory 1;soldier 0 1;soldier 0 2;soldier 1 1;knows 0 0 1 2;knows 1 2 1;knows 2 0;plan 0 1 2");
         Check.same("good: 2 each", x.outlasts(0, true, false), 2);
         Check.same("of several the least", x.outlasts(0, true, true), 1);
         Check.same("the latest: 2 + 1 of 1, 1 + 2 of 2", x.outlasts(0, false, false), 3);
@@ -51,7 +45,7 @@ final class PlanTest {
     }
 
     private static void reserves() {
-        ForgetWar x = told("memory 1;memory 1 needs 0;memory 1;soldier 0 1;soldier 0 2;soldier 0 3;soldier 1 1;knows 0 0 1;knows 1 0;knows 3 0 1 2;plan 0 0 1");
+        ForgetWar x = Check.told("memory 1;memory 1 needs 0;memory 1;soldier 0 1;soldier 0 2;soldier 0 3;soldier 1 1;knows 0 0 1;knows 1 0;knows 3 0 1 2;plan 0 0 1");
         Check.same("1: all there", x.reserves(0, 1), 0);
         Check.same("2: one lacks 1", x.reserves(0, 2), 1);
         Check.same("3: the third cannot learn 1 now", x.reserves(0, 3), -1);
@@ -67,7 +61,7 @@ final class PlanTest {
     }
 
     private static void companies() {
-        ForgetWar x = told("memory 1;memory 1 needs 0;memory 1;soldier 0 1;soldier 1 1;knows 0 1 0 2;knows 1 2;order 0 1;order 0 0 2;order 1 2;order 1 0");
+        ForgetWar x = Check.told("memory 1;memory 1 needs 0;memory 1;soldier 0 1;soldier 1 1;knows 0 1 0 2;knows 1 2;order 0 1;order 0 0 2;order 1 2;order 1 0");
         int[] due = {0, 4, 5, 7, 7};
         for (int n = 0; n < 5; n++) {
             Check.same("company of " + n, x.company(n), due[n]);
@@ -78,7 +72,7 @@ final class PlanTest {
     }
 
     private static void drills() {
-        ForgetWar x = told("memory 1;memory 1 needs 0;memory 1 needs 1;memory 1;soldier 0 1");
+        ForgetWar x = Check.told("memory 1;memory 1 needs 0;memory 1 needs 1;memory 1;soldier 0 1");
         Check.same("no order", x.drill(false), -1);
         Check.same("no order", x.drill(true), -1);
         Check.war(x, "order 0 2;order 0 3 1;order 0 0 1 2");
@@ -90,7 +84,7 @@ final class PlanTest {
     }
 
     private static void duels() {
-        ForgetWar x = told("memory 1;memory 1;memory 1 needs 0;memory 1 needs 1;memory 1;soldier 0 1;soldier 0 2;soldier 1 3;soldier 1 4;soldier 0 5");
+        ForgetWar x = Check.told("memory 1;memory 1;memory 1 needs 0;memory 1 needs 1;memory 1;soldier 0 1;soldier 0 2;soldier 1 3;soldier 1 4;soldier 0 5");
         Check.war(x, "knows 0 2 0;knows 1 2 3 0 1;knows 2 2 3;knows 4 4");
         Check.same("as many: the first", x.duel(0, 4), 0);
         Check.same("as many: the first", x.duel(4, 0), 4);
@@ -103,7 +97,7 @@ final class PlanTest {
         Check.noNumber("both are one", () -> x.duel(2, 2));
         Check.outOfBounds("no soldier", () -> x.duel(5, 5));
         Check.outOfBounds("no other", () -> x.duel(0, -1));
-        ForgetWar y = told("memory 1;memory 1;memory 1;memory 1;memory 1;memory 1;memory 1;memory 1;soldier 0 1;soldier 1 1;knows 0 0 1 2 3 4 5 6;knows 1 0");
+        ForgetWar y = Check.told("memory 1;memory 1;memory 1;memory 1;memory 1;memory 1;memory 1;memory 1;soldier 0 1;soldier 1 1;knows 0 0 1 2 3 4 5 6;knows 1 0");
         Check.same("7", y.duel(0, 1), 0);
         Check.same("7", y.best(1, 0), -1);
         Check.war(y, "knows 0 7");
@@ -114,7 +108,7 @@ final class PlanTest {
     }
 
     private static void bestHits() {
-        ForgetWar x = told("memory 1;memory 1 needs 0;memory 1;memory 1;soldier 0 1;soldier 1 1;soldier 1 2;soldier 0 3;knows 0 2 3;knows 1 1 2 0;knows 2 1");
+        ForgetWar x = Check.told("memory 1;memory 1 needs 0;memory 1;memory 1;soldier 0 1;soldier 1 1;soldier 1 2;soldier 0 3;knows 0 2 3;knows 1 1 2 0;knows 2 1");
         Check.same("a root must go", x.best(0, 1), 0);
         Check.same("of the other's", x.best(1, 0), 2);
         Check.same("any will do: the least", x.best(0, 2), 1);
@@ -124,7 +118,7 @@ final class PlanTest {
         Check.noNumber("both are one", () -> x.best(1, 1));
         Check.outOfBounds("no soldier", () -> x.best(4, 0));
         Check.outOfBounds("no other", () -> x.best(0, 4));
-        ForgetWar y = told("memory 1 ;memory 1;memory 1 needs 1;soldier 0 1;soldier 1 1;knows 0 0;knows 1 2 1;knows 0 1");
+        ForgetWar y = Check.told("memory 1 ;memory 1;memory 1 needs 1;soldier 0 1;soldier 1 1;knows 0 0;knows 1 2 1;knows 0 1");
         Check.same("more roots: also what is none", y.best(0, 1), 1);
         y.shoot(1, 0, false);
         Check.same("as many: the root", y.best(0, 1), 1);

@@ -95,29 +95,21 @@ final class TextTest {
         Check.wrongWar("memoryneeds 1", 0);
     }
 
-    private static String times(String line, int n) {
-        StringBuilder b = new StringBuilder(line);
-        for (int k = 1; k < n; k++) {
-            b.append(";").append(line);
-        }
-        return b.toString();
-    }
-
     private static void warLimits() {
         ForgetWar x = new ForgetWar();
-        Check.wrongWar(x, times("memory 1", 15), 126);
-        Check.wrongWar(x, times("memory 1", 14) + "; ", 127);
-        Check.wrongWar(x, times("memory 1", 14) + "; 5", 127);
-        Check.same("14 lines", Check.war(x, times("memory 1", 14)), 1);
+        Check.wrongWar(x, Check.times("memory 1", 15), 126);
+        Check.wrongWar(x, Check.times("memory 1", 14) + "; ", 127);
+        Check.wrongWar(x, Check.times("memory 1", 14) + "; 5", 127);
+        Check.same("14 lines", Check.war(x, Check.times("memory 1", 14)), 1);
         Check.wrongWar(x, "memory 2;memory 3; memory 4", 19);
         Check.same("16 memories", Check.war(x, "memory 2;memory 3"), 2);
         Check.wrongWar(x, "memory", 0);
-        Check.wrongWar(x, times("soldier 0 0", 11), 120);
-        Check.same("10 soldiers", Check.war(x, times("soldier 0 0 1 2 3 4 5", 10)), 3);
+        Check.wrongWar(x, Check.times("soldier 0 0", 11), 120);
+        Check.same("10 soldiers", Check.war(x, Check.times("soldier 0 0 1 2 3 4 5", 10)), 3);
         Check.wrongWar(x, "clash 0 1;soldier 1 1", 10);
         Check.wrongWar(new ForgetWar(), "soldier 0 0 1 2 3 4 5 6", 22);
-        Check.wrongWar(x, times("order 9 15", 11), 110);
-        Check.same("10 orders", Check.war(x, times("order 9 15", 10)), 4);
+        Check.wrongWar(x, Check.times("order 9 15", 11), 110);
+        Check.same("10 orders", Check.war(x, Check.times("order 9 15", 10)), 4);
         Check.wrongWar(x, " order", 1);
         Check.wrongWar(x, "knows 1 0 1 2 3 4 5 6 7 8 9 10 11 12", 34);
         Check.same("12 known", Check.war(x, "knows 1 0 1 2 3 4 5 6 7 8 9 10 11"), 5);
@@ -184,10 +176,10 @@ final class TextTest {
         Check.wrongLaw("good", 4);
         Check.wrongLaw("good 1 if", 9);
         Check.wrongLaw("good 1 when", 7);
-        Check.wrongLaw(times("read", 13), 60);
-        Check.wrongLaw(times("read", 12) + ";", 60);
+        Check.wrongLaw(Check.times("read", 13), 60);
+        Check.wrongLaw(Check.times("read", 12) + ";", 60);
         ForgetWar x = new ForgetWar();
-        Check.same("12 lines", Check.law(x, times("aim 999", 12)), 12);
+        Check.same("12 lines", Check.law(x, Check.times("aim 999", 12)), 12);
         Check.same("lines", x.count(4), 12);
         Check.same("in its place", Check.law(x, " read ; good 0 "), 2);
         Check.same("empty", Check.law(x, "  "), 0);
