@@ -56,6 +56,12 @@ final class FaceTest {
         for (Method m : ForgetWar.class.getDeclaredMethods()) {
             Check.no("private " + m.getName(), Modifier.isPrivate(m.getModifiers()) && names.contains(m.getName()));
         }
+        for (Class<?> inside : ForgetWar.class.getDeclaredClasses()) {
+            Check.yes(inside.getName(), Modifier.isStatic(inside.getModifiers()) && !Modifier.isPublic(inside.getModifiers()));
+            for (Method m : inside.getDeclaredMethods()) {
+                Check.no(inside.getName() + " " + m.getName(), names.contains(m.getName()));
+            }
+        }
         for (Field f : ForgetWar.class.getDeclaredFields()) {
             Check.yes(f.getName(), Modifier.isPrivate(f.getModifiers()) || f.getName().equals("NONE"));
         }

@@ -32,6 +32,7 @@ final class HourEdgeTest {
         alsoIfNothingChanges();
         latestSixtyShots();
         hourAsItWas();
+        fiveHundredCalls();
         Check.close("HourEdgeTest");
     }
 
@@ -486,5 +487,24 @@ final class HourEdgeTest {
         for (int ago = 0; ago < 3; ago++) {
             Check.same("the hour " + ago + " ago", x.log(ago, 0), due[ago]);
         }
+    }
+
+    /** "used for at most 512 calls": HOURS and what is LOST and LEARNT go on being counted. */
+    private static void fiveHundredCalls() {
+        ForgetWar x = Check.told("memory 1;memory 1;memory 1;soldier 0 1;soldier 0 1 2;soldier 1 1;soldier 1 2 1;book 0 0 1 2;book 2 0 1 2;knows 0 0;knows 2 0");
+        Check.law(x, "aim 100 if hour > 999;aim 30;good 50 if alone;read");
+        int lost = 0;
+        for (int k = 1; k <= 480; k++) {
+            lost += x.hours(60);
+        }
+        Check.same("hours", x.count(5), 28800);
+        Check.same("lost", x.count(9), lost);
+        Check.yes("many", lost > 28800);
+        Check.same("rows", x.count(11), 60);
+        Check.same("things", x.count(6), 40);
+        Check.same("acts", x.count(12), 12);
+        Check.same("none comes from nowhere", x.count(7), 2 + x.count(10) - lost);
+        Check.same("aim", x.rule(0, 0), 100);
+        Check.yes("the latest row", x.log(0, 0) >= 28798);
     }
 }
