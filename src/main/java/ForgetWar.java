@@ -148,13 +148,13 @@ public final class ForgetWar {
         needMemory(memory);
         switch (what) {
             case 0:
-                return now.lore.worth[memory];
+                return pick(now.lore.worth, memory);
             case 1:
-                return now.lore.needs[memory];
+                return pick(now.lore.needs, memory);
             case 2:
-                return now.lore.rests[memory];
+                return pick(now.lore.rests, memory);
             case 3:
-                return now.lore.bears[memory];
+                return pick(now.lore.bears, memory);
             case 4:
                 return now.whoKnow(memory);
             case 5:
@@ -162,7 +162,7 @@ public final class ForgetWar {
             case 6:
                 return now.scene.timesInField(memory);
             case 7:
-                return now.lore.clash[memory];
+                return pick(now.lore.clash, memory);
             default:
                 throw new NoSuchElementException("a memory has no such thing");
         }
@@ -172,21 +172,21 @@ public final class ForgetWar {
         needSoldier(soldier);
         switch (what) {
             case 0:
-                return now.lore.side[soldier];
+                return pick(now.lore.side, soldier);
             case 1:
-                return now.scene.place[soldier];
+                return pick(now.scene.place, soldier);
             case 2:
-                return now.scene.many[soldier];
+                return pick(now.scene.many, soldier);
             case 3:
-                return now.scene.known[soldier];
+                return pick(now.scene.known, soldier);
             case 4:
-                return now.scene.usable[soldier];
+                return pick(now.scene.usable, soldier);
             case 5:
-                return now.lore.book[soldier];
+                return pick(now.lore.book, soldier);
             case 6:
-                return now.lore.routeSize[soldier];
+                return pick(now.lore.routeSize, soldier);
             case 7:
-                return now.lore.worthOf(now.scene.usable[soldier]);
+                return now.lore.worthOf(pick(now.scene.usable, soldier));
             case 8:
                 return now.lore.ordersOf(soldier) & now.obeyedOrders();
             default:
@@ -217,9 +217,9 @@ public final class ForgetWar {
         }
         switch (what) {
             case 0:
-                return now.lore.orderOf[order];
+                return pick(now.lore.orderOf, order);
             case 1:
-                return now.lore.orderSet[order];
+                return pick(now.lore.orderSet, order);
             case 2:
                 return now.obeyedOrders() >> order & 1;
             case 3:
@@ -257,7 +257,7 @@ public final class ForgetWar {
 
     public int shoot(int soldier, int other, boolean good) throws IndexOutOfBoundsException, IllegalArgumentException, IllegalStateException {
         needTwo(soldier, other);
-        if (now.ofOneSide(soldier, other) || !now.together(soldier, other) || now.scene.many[other] < 1) {
+        if (now.ofOneSide(soldier, other) || !now.together(soldier, other) || pick(now.scene.many, other) < 1) {
             throw new IllegalStateException("this shot cannot be");
         }
         past.keep(now.scene);
@@ -275,14 +275,14 @@ public final class ForgetWar {
         }
         past.keep(now.scene);
         now.learn(soldier, memory);
-        return now.scene.many[soldier];
+        return pick(now.scene.many, soldier);
     }
 
     public int gather(int soldier, int k) throws IndexOutOfBoundsException, IllegalStateException {
         needSoldier(soldier);
         needThing(k);
-        int memory = now.scene.thingMemory[k];
-        if (now.scene.thingPlace[k] != now.scene.place[soldier] || !now.canLearn(soldier, memory)) {
+        int memory = pick(now.scene.thingMemory, k);
+        if (pick(now.scene.thingPlace, k) != pick(now.scene.place, soldier) || !now.canLearn(soldier, memory)) {
             throw new IllegalStateException("this cannot be gathered");
         }
         past.keep(now.scene);
@@ -293,7 +293,7 @@ public final class ForgetWar {
 
     public int read(int soldier) throws IndexOutOfBoundsException, IllegalStateException {
         needSoldier(soldier);
-        if (now.lore.book[soldier] == 0) {
+        if (pick(now.lore.book, soldier) == 0) {
             throw new IllegalStateException("there is no book");
         }
         past.keep(now.scene);
@@ -304,11 +304,11 @@ public final class ForgetWar {
         needThing(k);
         switch (what) {
             case 0:
-                return now.scene.thingMemory[k];
+                return pick(now.scene.thingMemory, k);
             case 1:
-                return now.scene.thingPlace[k];
+                return pick(now.scene.thingPlace, k);
             case 2:
-                return now.scene.thingOwner[k];
+                return pick(now.scene.thingOwner, k);
             default:
                 throw new NoSuchElementException("what lies there has no such thing");
         }
@@ -316,7 +316,7 @@ public final class ForgetWar {
 
     public int plan(int side, boolean lost) throws IndexOutOfBoundsException {
         needSide(side);
-        int all = now.lore.plan[side];
+        int all = pick(now.lore.plan, side);
         return lost ? all & ~now.usableBySide(side) : all;
     }
 
@@ -479,15 +479,15 @@ public final class ForgetWar {
         }
         switch (what) {
             case 0:
-                return now.scene.rowHour[row];
+                return pick(now.scene.rowHour, row);
             case 1:
-                return now.scene.rowBy[row];
+                return pick(now.scene.rowBy, row);
             case 2:
-                return now.scene.rowWhom[row];
+                return pick(now.scene.rowWhom, row);
             case 3:
-                return now.scene.rowMemory[row];
+                return pick(now.scene.rowMemory, row);
             default:
-                return now.scene.rowGood[row];
+                return pick(now.scene.rowGood, row);
         }
     }
 
@@ -642,7 +642,7 @@ public final class ForgetWar {
 
         void advance() {
             begin = stop;
-            while (begin < size && begin < TAPE_BYTES && bytes[begin] == ' ') {
+            while (begin < size && begin < TAPE_BYTES && pick(bytes, begin) == ' ') {
                 begin++;
             }
             kind = kindAt(begin);
@@ -657,7 +657,7 @@ public final class ForgetWar {
         private int numberRead() {
             int sum = 0;
             for (int k = begin; k < stop && k < TAPE_BYTES; k++) {
-                sum = k - begin < 3 ? sum * 10 + bytes[k] - '0' : NONE;
+                sum = k - begin < 3 ? sum * 10 + pick(bytes, k) - '0' : NONE;
             }
             return sum;
         }
@@ -666,7 +666,7 @@ public final class ForgetWar {
             if (k < 0 || k >= size || k >= TAPE_BYTES) {
                 return END;
             }
-            int sign = bytes[k];
+            int sign = pick(bytes, k);
             if (sign >= 'a' && sign <= 'z') {
                 return WORD;
             }
@@ -678,7 +678,7 @@ public final class ForgetWar {
                 return false;
             }
             for (int k = 0; k < word.length() && begin + k < TAPE_BYTES; k++) {
-                if (bytes[begin + k] != word.charAt(k)) {
+                if (pick(bytes, begin + k) != word.charAt(k)) {
                     return false;
                 }
             }
@@ -747,26 +747,26 @@ public final class ForgetWar {
             int all = needed;
             for (int m = 0; m < memories; m++) {
                 if (has(needed, m)) {
-                    all |= bears[m];
+                    all |= pick(bears, m);
                 }
             }
             for (int m = 0; m < memories; m++) {
                 if (has(all, m)) {
-                    rests[m] |= 1 << memories;
+                    put(rests, m, pick(rests, m) | 1 << memories);
                 }
             }
-            worth[memories] = value;
-            needs[memories] = needed;
-            bears[memories] = all;
-            rests[memories] = 0;
-            clash[memories] = 0;
+            put(worth, memories, value);
+            put(needs, memories, needed);
+            put(bears, memories, all);
+            put(rests, memories, 0);
+            put(clash, memories, 0);
             memories++;
         }
 
         void addOrder(int whose, int set) {
             if (orders < ORDERS) {
-                orderOf[orders] = whose;
-                orderSet[orders] = set;
+                put(orderOf, orders, whose);
+                put(orderSet, orders, set);
                 orders++;
             }
         }
@@ -779,7 +779,7 @@ public final class ForgetWar {
         int usableOf(int known) {
             int usable = 0;
             for (int m = 0; m < memories; m++) {
-                if (has(known, m) && (bears[m] & ~known) == 0) {
+                if (has(known, m) && (pick(bears, m) & ~known) == 0) {
                     usable |= 1 << m;
                 }
             }
@@ -790,7 +790,7 @@ public final class ForgetWar {
             int sum = 0;
             for (int m = 0; m < memories; m++) {
                 if (has(set, m)) {
-                    sum += worth[m];
+                    sum += pick(worth, m);
                 }
             }
             return sum;
@@ -800,7 +800,7 @@ public final class ForgetWar {
         int rootsIn(int set) {
             int roots = 0;
             for (int m = 0; m < memories; m++) {
-                if (has(set, m) && needs[m] == 0) {
+                if (has(set, m) && pick(needs, m) == 0) {
                     roots |= 1 << m;
                 }
             }
@@ -810,7 +810,7 @@ public final class ForgetWar {
         int ordersOf(int soldier) {
             int found = 0;
             for (int k = 0; k < orders; k++) {
-                if (orderOf[k] == soldier) {
+                if (pick(orderOf, k) == soldier) {
                     found |= 1 << k;
                 }
             }
@@ -822,7 +822,7 @@ public final class ForgetWar {
             int all = set;
             for (int m = 0; m < memories; m++) {
                 if (has(set, m)) {
-                    all |= bears[m];
+                    all |= pick(bears, m);
                 }
             }
             return Integer.bitCount(all);
@@ -914,7 +914,7 @@ public final class ForgetWar {
             if (!tape.isNumber(0, 1)) {
                 return false;
             }
-            lore.side[soldier] = tape.value;
+            put(lore.side, soldier, tape.value);
             tape.advance();
             int size = 0;
             while (size <= ROUTE && tape.kind == NUMBER) {
@@ -928,8 +928,8 @@ public final class ForgetWar {
             if (size == 0) {
                 return false;
             }
-            lore.routeSize[soldier] = size;
-            lore.book[soldier] = 0;
+            put(lore.routeSize, soldier, size);
+            put(lore.book, soldier, 0);
             lore.soldiers++;
             world.enter(soldier);
             return true;
@@ -1094,8 +1094,8 @@ public final class ForgetWar {
         int sumOf(int lineKind) {
             int sum = 0;
             for (int k = 0; k < lines && k < LAW_LINES; k++) {
-                if (kind[k] == lineKind && holds(k)) {
-                    sum += amount[k];
+                if (pick(kind, k) == lineKind && holds(k)) {
+                    sum += pick(amount, k);
                 }
             }
             return Math.min(sum, 100);
@@ -1420,7 +1420,7 @@ public final class ForgetWar {
         int timesInField(int memory) {
             int times = 0;
             for (int k = 0; k < things && k < THINGS; k++) {
-                if (thingMemory[k] == memory) {
+                if (pick(thingMemory, k) == memory) {
                     times++;
                 }
             }
@@ -1932,7 +1932,7 @@ public final class ForgetWar {
             int left = usable & ~forgotten;
             for (int m = 0; m < lore.memories; m++) {
                 if (has(forgotten, m)) {
-                    left &= ~lore.rests[m];
+                    left &= ~pick(lore.rests, m);
                 }
             }
             return left;
@@ -1940,7 +1940,7 @@ public final class ForgetWar {
 
         private boolean isPeaceful(int set) {
             for (int m = 0; m < lore.memories; m++) {
-                if (has(set, m) && (lore.clash[m] & set) != 0) {
+                if (has(set, m) && (pick(lore.clash, m) & set) != 0) {
                     return false;
                 }
             }
@@ -1973,9 +1973,9 @@ public final class ForgetWar {
             int best = NONE;
             int most = 0;
             for (int k = 0; k < SOLDIERS; k++) {
-                if (hits[k] > most) {
+                if (pick(hits, k) > most) {
                     best = k;
-                    most = hits[k];
+                    most = pick(hits, k);
                 }
             }
             return best;
