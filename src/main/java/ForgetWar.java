@@ -657,20 +657,20 @@ public final class ForgetWar {
         private int numberRead() {
             int sum = 0;
             for (int k = begin; k < stop && k < TAPE_BYTES; k++) {
-                sum = k - begin < 3 ? sum * 10 + pick(bytes, k) - '0' : NONE;
+                sum = k - begin < 3 ? sum * 10 + bytes[k] - '0' : NONE;
             }
             return sum;
         }
 
         private int kindAt(int k) {
-            if (k < 0 || k >= size || k >= TAPE_BYTES) {
-                return END;
-            }
-            int sign = pick(bytes, k);
+            int sign = k >= 0 && k < size && k < TAPE_BYTES ? bytes[k] : NONE;
             if (sign >= 'a' && sign <= 'z') {
                 return WORD;
             }
-            return sign >= '0' && sign <= '9' ? NUMBER : SIGN;
+            if (sign >= '0' && sign <= '9') {
+                return NUMBER;
+            }
+            return sign == NONE ? END : SIGN;
         }
 
         boolean says(String word) {
